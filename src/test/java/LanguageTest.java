@@ -1,0 +1,138 @@
+import java.io.IOException;
+import java.lang.reflect.Constructor;
+import java.lang.reflect.Field;
+import java.lang.reflect.Method;
+import java.lang.reflect.Modifier;
+import java.nio.file.Files;
+import java.nio.file.Path;
+import java.util.ArrayList;
+import java.util.Arrays;
+import java.util.List;
+import java.util.Set;
+import java.util.TreeSet;
+import java.util.regex.Matcher;
+import java.util.regex.Pattern;
+
+/** The public face of the document, and those rules of LANGUAGE.md that can be seen from outside. */
+public final class LanguageTest {
+    private static final String SOURCE = "src/main/java/GeodesicCutter.java";
+    private static final String[] FACE = {
+        "split(int)", "setRadius(int)", "cutAt(int)", "setStock(int,int)", "count(int)", "undo()",
+        "hub(int,int)", "hubAt(int,int,int)", "joined(int,int)", "led(int,int)", "way(int,int)",
+        "strut(int,int)", "strutOf(int,int)", "kind(int,int)", "face(int,int)", "lose(int)", "put(int)",
+        "mend()", "worst()", "stock(int)", "radiusFor(int)", "type(int)", "clearText()", "fault(int)",
+        "loseAll()"
+    };
+    private static final String[] BANNED = {
+        "\\bthrow\\b", "\\bthrows\\b", "\\btry\\b", "\\bcatch\\b", "\\bfinally\\b", "\\bsynchronized\\b",
+        "\\bassert\\b", "->", "::", "\\bpackage\\b", "\\bvar\\b", "\\bfloat\\b", "\\bdouble\\b",
+        "\\bSystem\\.(?!arraycopy\\b)", "\\bMath\\.\\w+Exact\\b", "\\bThread\\b", "\\bObject\\b",
+        "\\b(Random|Scanner|HashMap|HashSet|Map|Set|Stream)\\b", "[^\\x00-\\x7f]"
+    };
+
+    private static String shown(Method method) {
+        List<String> types = new ArrayList<>();
+        for (Class<?> type : method.getParameterTypes()) {
+            types.add(type.getName());
+        }
+        return method.getName() + "(" + String.join(",", types) + ")";
+    }
+
+    private static void face() {
+        Class<?> cutter = GeodesicCutter.class;
+        if (!Modifier.isFinal(cutter.getModifiers()) || !Modifier.isPublic(cutter.getModifiers())) {
+            Check.fail("the class is not public and final");
+        }
+        Set<String> open = new TreeSet<>();
+        for (Method method : cutter.getDeclaredMethods()) {
+            if (!Modifier.isPrivate(method.getModifiers())) {
+                open.add(shown(method));
+                if (method.getReturnType() != int.class || !Modifier.isPublic(method.getModifiers())) {
+                    Check.fail(shown(method) + " is not a public int");
+                }
+            }
+        }
+        if (!open.equals(new TreeSet<>(Arrays.asList(FACE)))) {
+            Check.fail("the face is " + open);
+        }
+        Constructor<?>[] constructors = cutter.getDeclaredConstructors();
+        if (constructors.length != 1 || constructors[0].getParameterCount() != 0
+                || !Modifier.isPublic(constructors[0].getModifiers())) {
+            Check.fail("the constructors are " + Arrays.toString(constructors));
+        }
+    }
+
+    private static void constants() {
+        Check.due("INVALID_ARGUMENT", GeodesicCutter.INVALID_ARGUMENT, -1001);
+        Check.due("NOT_POSSIBLE", GeodesicCutter.NOT_POSSIBLE, -1002);
+        Check.due("LIMIT_REACHED", GeodesicCutter.LIMIT_REACHED, -1003);
+        Check.due("NOT_FOUND", GeodesicCutter.NOT_FOUND, -1004);
+        Set<String> open = new TreeSet<>();
+        for (Field field : GeodesicCutter.class.getDeclaredFields()) {
+            int is = field.getModifiers();
+            if (Modifier.isStatic(is) && !Modifier.isFinal(is)) {
+                Check.fail("the static field " + field.getName() + " is not final");
+            }
+            if (!Modifier.isPrivate(is)) {
+                open.add(field.getName());
+            }
+        }
+        Set<String> due = Set.of("INVALID_ARGUMENT", "NOT_POSSIBLE", "LIMIT_REACHED", "NOT_FOUND");
+        if (!open.equals(due)) {
+            Check.fail("the constants are " + open);
+        }
+    }
+
+    private static void classesInside() {
+        Set<String> names = new TreeSet<>();
+        for (String shown : FACE) {
+            names.add(shown.substring(0, shown.indexOf('(')));
+        }
+        Class<?>[] inside = GeodesicCutter.class.getDeclaredClasses();
+        if (inside.length > 11) {
+            Check.fail("there are " + inside.length + " classes inside");
+        }
+        for (Class<?> nested : inside) {
+            int is = nested.getModifiers();
+            if (!Modifier.isStatic(is) || Modifier.isPublic(is) || Modifier.isProtected(is)) {
+                Check.fail(nested.getName() + " is not private and static");
+            }
+            if (nested.getDeclaredFields().length > 20) {
+                Check.fail(nested.getName() + " has too many fields");
+            }
+            for (Method method : nested.getDeclaredMethods()) {
+                if (names.contains(method.getName()) || method.getParameterCount() > 7) {
+                    Check.fail(nested.getName() + "." + method.getName());
+                }
+            }
+        }
+    }
+
+    private static String withoutComments(String source) {
+        return source.replaceAll("(?s)/\\*.*?\\*/", "").replaceAll("//[^\n]*", "");
+    }
+
+    private static void source() throws IOException {
+        String code = withoutComments(Files.readString(Path.of(SOURCE)));
+        for (String banned : BANNED) {
+            Matcher matcher = Pattern.compile(banned).matcher(code);
+            if (matcher.find()) {
+                Check.fail("the source has '" + matcher.group() + "'");
+            }
+        }
+        Matcher imports = Pattern.compile("\\bimport\\s+([^;]+);").matcher(code);
+        while (imports.find()) {
+            if (!imports.group(1).equals("java.util.Arrays")) {
+                Check.fail("the source imports " + imports.group(1));
+            }
+        }
+    }
+
+    public static void main(String[] args) throws IOException {
+        face();
+        constants();
+        classesInside();
+        source();
+        Check.end();
+    }
+}
