@@ -338,7 +338,7 @@ public final class GeodesicCutter {
             return INVALID_ARGUMENT;
         }
         loadMill();
-        // Every radius is tried, as a smaller one may by chance need more bars.
+        // Every radius is tried: with such sawing nothing says that a smaller one needs no more bars.
         for (int radius = MAX_RADIUS; radius >= MIN_RADIUS; radius--) {
             mill.measure(kinds, radius);
             if (mill.areEnough(bars, now.bar, now.saw)) {
@@ -1008,7 +1008,6 @@ public final class GeodesicCutter {
 
         void empty() {
             waiting = 0;
-            bars = 0;
         }
 
         /** Struts must come by descending kinds, those of one kind by ascending numbers. */
@@ -1151,12 +1150,12 @@ public final class GeodesicCutter {
     private static final class Listing {
         final int[] struts = new int[MAX_LISTED];
         int count;
-        int place;
         int reason;
+        /** Where the fault is, if there is a reason. */
+        int place;
 
         void empty() {
             count = 0;
-            place = 0;
             reason = NO_FAULT;
         }
 

@@ -218,7 +218,10 @@ public final class ModelTest {
         }
     }
 
-    /** Compares everything that all steps and cut lines give, hub by hub, strut by strut, face by face. */
+    /**
+     * Compares everything that all steps and cut lines give, hub by hub, strut by strut, face by face.
+     * These are more calls than the document answers for; the class does not count them.
+     */
     private static void compareAllBalls() {
         for (int f = 1; f <= 6; f++) {
             ModelTest test = new ModelTest(1000 + f);

@@ -182,6 +182,20 @@ public final class StrutsTest {
         Check.due("lose(12) of one step", cutter.lose(12), INVALID);
     }
 
+    private static void loseAndPutAreChanges() {
+        GeodesicCutter cutter = new GeodesicCutter();
+        cutter.lose(5);
+        Check.due("lose is recorded", cutter.count(16), 1);
+        cutter.put(5);
+        Check.due("put is recorded", cutter.count(16), 2);
+        Check.due("undo() of put", cutter.undo(), 1);
+        Check.due("strutOf(5, 5) is missing again", cutter.strutOf(5, 5), 1);
+        Check.due("missing", cutter.count(18), 1);
+        Check.due("undo() of lose", cutter.undo(), 0);
+        Check.due("strutOf(5, 5) is back again", cutter.strutOf(5, 5), 0);
+        Check.due("missing", cutter.count(18), 0);
+    }
+
     private static void atMostFortyAreMissing() {
         GeodesicCutter cutter = new GeodesicCutter();
         cutter.cutAt(2);
@@ -247,6 +261,7 @@ public final class StrutsTest {
         kindsOfOneLength();
         face();
         loseAndPut();
+        loseAndPutAreChanges();
         atMostFortyAreMissing();
         worst();
         Check.end();
