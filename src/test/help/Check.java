@@ -1,9 +1,20 @@
 /** Counts the calls whose answers are not due, and ends a test. */
 final class Check {
+    static final int INVALID = -1001;
+    static final int NOT_POSSIBLE = -1002;
+    static final int LIMIT = -1003;
+    static final int NOT_FOUND = -1004;
+
     private static final int MOST_TOLD = 20;
     private static int wrong = 0;
+    private static String subject = "";
 
     private Check() {
+    }
+
+    /** What the next checks are about; it is told ahead of each wrong answer. */
+    static void about(String newSubject) {
+        subject = newSubject;
     }
 
     static void due(String call, long got, long want) {
@@ -15,7 +26,7 @@ final class Check {
     static void fail(String what) {
         wrong++;
         if (wrong <= MOST_TOLD) {
-            System.out.println(what);
+            System.out.println(subject + what);
         }
     }
 

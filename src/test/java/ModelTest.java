@@ -86,7 +86,7 @@ public final class ModelTest {
             return;
         }
         String told = NAMES[call] + java.util.Arrays.toString(a);
-        compare(told, ask(cutter, NAMES[call], a), askModel(NAMES[call], a));
+        compare(told, Calls.ask(cutter, NAMES[call], a), askModel(NAMES[call], a));
     }
 
     private int[] arguments(String name) {
@@ -158,36 +158,6 @@ public final class ModelTest {
         return text.toString();
     }
 
-    private static int ask(GeodesicCutter cutter, String name, int[] a) {
-        switch (name) {
-            case "split": return cutter.split(a[0]);
-            case "setRadius": return cutter.setRadius(a[0]);
-            case "cutAt": return cutter.cutAt(a[0]);
-            case "setStock": return cutter.setStock(a[0], a[1]);
-            case "count": return cutter.count(a[0]);
-            case "undo": return cutter.undo();
-            case "hub": return cutter.hub(a[0], a[1]);
-            case "hubAt": return cutter.hubAt(a[0], a[1], a[2]);
-            case "joined": return cutter.joined(a[0], a[1]);
-            case "led": return cutter.led(a[0], a[1]);
-            case "way": return cutter.way(a[0], a[1]);
-            case "strut": return cutter.strut(a[0], a[1]);
-            case "strutOf": return cutter.strutOf(a[0], a[1]);
-            case "kind": return cutter.kind(a[0], a[1]);
-            case "face": return cutter.face(a[0], a[1]);
-            case "lose": return cutter.lose(a[0]);
-            case "put": return cutter.put(a[0]);
-            case "mend": return cutter.mend();
-            case "worst": return cutter.worst();
-            case "stock": return cutter.stock(a[0]);
-            case "radiusFor": return cutter.radiusFor(a[0]);
-            case "type": return cutter.type(a[0]);
-            case "clearText": return cutter.clearText();
-            case "fault": return cutter.fault(a[0]);
-            default: return cutter.loseAll();
-        }
-    }
-
     private int askModel(String name, int[] a) {
         switch (name) {
             case "split": return model.split(a[0]);
@@ -244,7 +214,7 @@ public final class ModelTest {
 
     private void same(String name, int... arguments) {
         String told = name + java.util.Arrays.toString(arguments);
-        Check.due(told, ask(cutter, name, arguments), askModel(name, arguments));
+        Check.due(told, Calls.ask(cutter, name, arguments), askModel(name, arguments));
     }
 
     private void compareRows(String name, int rows, int lastWhat) {

@@ -39,8 +39,9 @@ public final class TextsTest {
         String[] formless = {";", "0", "0-", "0-1", "-1;", "0-;", "0--1;", "0+1;", "0-1,", " 0-1;", "0 -1;",
             "0-1 ;", "0000-1;", "0-0001;", "0-1:", "a-1;", "0-/;", "0-:;", "9999-1;", "0-1-2;", "0_1;", "0.1;"};
         for (String text : formless) {
-            dueFault(cutter, text, 0, 1);
-            dueFault(cutter, "0-1;" + text, 4, 1);
+            GeodesicCutter fresh = new GeodesicCutter();
+            dueFault(fresh, text, 0, 1);
+            dueFault(fresh, "0-1;" + text, 4, 1);
         }
         dueFault(cutter, "0-1; ", 4, 1);
         dueFault(cutter, "0-18;", 0, 2);

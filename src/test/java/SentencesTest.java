@@ -1,0 +1,17 @@
+import java.io.IOException;
+
+/** Each sentence of the document that names a boundary, with a test of its own that quotes it. */
+public final class SentencesTest {
+    public static void main(String[] args) throws IOException {
+        ShapeSentences.all();
+        DomeSentences.all();
+        ChangeSentences.all();
+        SplittingSentences.all();
+        HubsSentences.all();
+        StrutsSentences.all();
+        StockSentences.all();
+        TextsSentences.all();
+        Sentences.compareWithDocument();
+        Check.end();
+    }
+}
