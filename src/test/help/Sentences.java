@@ -14,12 +14,16 @@ import java.util.TreeSet;
  */
 final class Sentences {
     private static final Path DOCUMENT = Path.of("../shared/DOC.md");
+    private static final String WHAT_IT_IS = "What it is";
+    private static final String FACE = "The public face";
     private static final String TERMS = "Terms";
-    private static final String TERMS_BEGIN = "There are f steps";
-    private static final String TERMS_END = "The constants:";
     private static final Map<String, Set<String>> QUOTED = new TreeMap<>();
 
     private Sentences() {
+    }
+
+    static void whatItIs(String words) {
+        quote(WHAT_IT_IS, words);
     }
 
     static void terms(String words) {
@@ -41,7 +45,8 @@ final class Sentences {
             System.out.println("no document here to compare the quotes with");
             return;
         }
-        Map<String, List<String>> clauses = clausesOf(Files.readString(DOCUMENT));
+        Map<String, List<String>> clauses = new TreeMap<>();
+        sections().forEach((name, body) -> clauses.put(name, split(body)));
         for (Map.Entry<String, List<String>> section : clauses.entrySet()) {
             for (String clause : section.getValue()) {
                 if (!isQuoted(section.getKey(), clause)) {
@@ -76,22 +81,33 @@ final class Sentences {
         return false;
     }
 
-    private static Map<String, List<String>> clausesOf(String document) {
-        Map<String, List<String>> clauses = new TreeMap<>();
-        int begin = Math.max(0, document.indexOf(TERMS_BEGIN));
-        int end = document.indexOf(TERMS_END);
-        clauses.put(TERMS, split(document.substring(begin, end < begin ? document.length() : end)));
-        for (String section : document.split("\n## ")) {
-            if (section.startsWith("Promise ")) {
-                String name = section.substring(0, section.indexOf(':'));
-                int body = section.indexOf('\n');
-                clauses.put(name, split(body < 0 ? "" : section.substring(body)));
+    /** The lines of the class that the document shows; none if there is no document here. */
+    static List<String> face() throws IOException {
+        List<String> lines = new ArrayList<>();
+        for (String line : sections().getOrDefault(FACE, "").split("\n")) {
+            if (line.startsWith("public ") || line.startsWith("    public ")) {
+                lines.add(line);
             }
         }
-        return clauses;
+        return lines;
     }
 
-    /** Splits into sentences, and those at semicolons; headings are left out. */
+    /** The sections that promise something, by their names; promises without their titles. */
+    private static Map<String, String> sections() throws IOException {
+        Map<String, String> sections = new TreeMap<>();
+        String document = Files.exists(DOCUMENT) ? Files.readString(DOCUMENT) : "";
+        for (String section : document.split("\n## ")) {
+            int end = section.indexOf('\n');
+            String heading = end < 0 ? section : section.substring(0, end);
+            String name = heading.startsWith("Promise ") ? heading.replaceAll(":.*", "") : heading;
+            if (!name.startsWith("# ") && !name.equals("Not promised")) {
+                sections.put(name, section.substring(heading.length()));
+            }
+        }
+        return sections;
+    }
+
+    /** Splits into sentences, and those at semicolons; headings and code are left out. */
     private static List<String> split(String text) {
         List<String> clauses = new ArrayList<>();
         for (String line : text.split("\n")) {

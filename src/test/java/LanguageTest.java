@@ -1,4 +1,5 @@
 import java.io.IOException;
+import java.lang.reflect.Array;
 import java.lang.reflect.Constructor;
 import java.lang.reflect.Field;
 import java.lang.reflect.Method;
@@ -7,6 +8,8 @@ import java.nio.file.Files;
 import java.nio.file.Path;
 import java.util.ArrayList;
 import java.util.Arrays;
+import java.util.Collections;
+import java.util.IdentityHashMap;
 import java.util.List;
 import java.util.Set;
 import java.util.TreeSet;
@@ -16,6 +19,12 @@ import java.util.regex.Pattern;
 /** The public face of the document, and those rules of LANGUAGE.md that can be seen from outside. */
 public final class LanguageTest {
     private static final String SOURCE = "src/main/java/GeodesicCutter.java";
+    private static final Pattern METHOD =
+            Pattern.compile("( {4}| {8})(?!if|for|while|switch)\\w[\\w\\[\\] ]*\\(.*\\) \\{");
+    private static final int MOST_LINES = 60;
+    /** So a run of some three hundred objects stays in its room: 600,000 of them, 7.3 million elements. */
+    private static final int MOST_OBJECTS = 100;
+    private static final int MOST_ELEMENTS = 20_000;
     private static final String[] FACE = {
         "split(int)", "setRadius(int)", "cutAt(int)", "setStock(int,int)", "count(int)", "undo()",
         "hub(int,int)", "hubAt(int,int,int)", "joined(int,int)", "led(int,int)", "way(int,int)",
@@ -128,11 +137,66 @@ public final class LanguageTest {
         }
     }
 
-    public static void main(String[] args) throws IOException {
+    /** Methods end with a brace that stands as far in as their first line. */
+    private static void lengthsOfMethods() throws IOException {
+        List<String> lines = Files.readAllLines(Path.of(SOURCE));
+        for (int first = 0; first < lines.size(); first++) {
+            Matcher method = METHOD.matcher(lines.get(first));
+            if (!method.matches()) {
+                continue;
+            }
+            int last = first + lines.subList(first, lines.size()).indexOf(method.group(1) + "}");
+            if (last <= first || last - first + 1 > MOST_LINES) {
+                Check.fail("too long: " + lines.get(first).trim());
+            }
+        }
+    }
+
+    /** All is made with the object: nothing is made but in what a field begins with, and in History(). */
+    private static void madeInConstructors() throws IOException {
+        for (String line : withoutComments(Files.readString(Path.of(SOURCE))).split("\n")) {
+            boolean isField = line.matches(" +(private )?final \\S+ \\w+ = new .*;");
+            boolean isHistory = line.trim().equals("states[i] = new State();");
+            if (line.matches(".*\\b(new|clone|copyOf|copyOfRange)\\b.*") && !isField && !isHistory) {
+                Check.fail("a call makes something: " + line.trim());
+            }
+        }
+    }
+
+    private static void roomOfOneObject() throws IllegalAccessException {
+        Set<Object> found = Collections.newSetFromMap(new IdentityHashMap<>());
+        long elements = elementsOf(new GeodesicCutter(), found);
+        if (found.size() > MOST_OBJECTS || elements > MOST_ELEMENTS) {
+            Check.fail("an object takes " + found.size() + " objects and arrays with " + elements + " elements");
+        }
+    }
+
+    private static long elementsOf(Object object, Set<Object> found) throws IllegalAccessException {
+        if (object == null || !found.add(object)) {
+            return 0;
+        }
+        long elements = 0;
+        int length = object.getClass().isArray() ? Array.getLength(object) : 0;
+        for (int i = 0; i < length; i++) {
+            elements += 1 + (object instanceof Object[] row ? elementsOf(row[i], found) : 0);
+        }
+        for (Field field : object.getClass().getDeclaredFields()) {
+            if (!Modifier.isStatic(field.getModifiers())) {
+                field.setAccessible(true);
+                elements += 1 + (field.getType().isPrimitive() ? 0 : elementsOf(field.get(object), found));
+            }
+        }
+        return elements;
+    }
+
+    public static void main(String[] args) throws IOException, IllegalAccessException {
         face();
         constants();
         classesInside();
         source();
+        lengthsOfMethods();
+        madeInConstructors();
+        roomOfOneObject();
         Check.end();
     }
 }

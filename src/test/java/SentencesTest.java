@@ -1,8 +1,9 @@
 import java.io.IOException;
 
-/** Each sentence of the document that names a boundary, with a test of its own that quotes it. */
+/** Each sentence of the document, with a test of its own that quotes it. */
 public final class SentencesTest {
     public static void main(String[] args) throws IOException {
+        FaceSentences.all();
         ShapeSentences.all();
         DomeSentences.all();
         ChangeSentences.all();
